@@ -5,62 +5,9 @@ import java.util.Set;
 import java.util.TreeSet;
 
 /** At least one test for each promise of the document: ordinary inputs, edges and wrong inputs. */
-public final class PromiseTests {
-    private interface Call {
-        Object run();
-    }
-
-    private static final Class<?> INDEX = IndexOutOfBoundsException.class;
-    private static final Class<?> ARGUMENT = IllegalArgumentException.class;
-    private static final Class<?> STATE = IllegalStateException.class;
-
-    private static String promise = "";
-    private static int wrong = 0;
-
-    private static void due(String what, Object got, Object want) {
-        if (!want.equals(got)) {
-            wrong++;
-            System.out.println(promise + ": " + what + " answered " + got + ", due is " + want);
-        }
-    }
-
-    /** The call throws just this class, and what can be seen stays as it was. */
-    private static void refused(WetMosaic m, String what, Class<?> want, Call call) {
-        long before = m.digest();
-        Object got;
-        try {
-            got = call.run();
-        } catch (RuntimeException e) {
-            got = e.getClass();
-        }
-        due(what, got, want);
-        due("digest() after " + what, m.digest(), before);
-    }
-
-    private static WetMosaic freshWall() {
-        WetMosaic m = new WetMosaic();
-        m.spread(0, 0, 10, 8);
-        return m;
-    }
-
-    private static WetMosaic coveredWall() {
-        WetMosaic m = freshWall();
-        for (int y = 0; y < 8; y++) {
-            for (int x = 0; x < 10; x += 2) {
-                m.press(x, y, 2, true, (x / 2 + y) % 7, y % 7);
-            }
-        }
-        return m;
-    }
-
-    private static void setSuns(WetMosaic m, int... suns) {
-        for (int h = 0; h < 8; h++) {
-            m.setSun(h, suns[h]);
-        }
-    }
-
+public final class PromiseTests extends MosaicTest {
     private static void face() {
-        promise = "face";
+        says("face");
         due("final", Modifier.isFinal(WetMosaic.class.getModifiers()), true);
         Set<String> seen = new TreeSet<>();
         for (Method method : WetMosaic.class.getDeclaredMethods()) {
@@ -105,7 +52,7 @@ public final class PromiseTests {
     }
 
     private static void promise1NewObject() {
-        promise = "promise 1";
+        says("promise 1");
         WetMosaic m = new WetMosaic();
         for (int what = 0; what < 7; what++) {
             due("count(" + what + ")", m.count(what), 0);
@@ -124,7 +71,7 @@ public final class PromiseTests {
     }
 
     private static void promise2Spread() {
-        promise = "promise 2";
+        says("promise 2");
         WetMosaic m = new WetMosaic();
         due("spread(2, 3, 4, 2)", m.spread(2, 3, 4, 2), 8);
         due("cell(2, 3, 0)", m.cell(2, 3, 0), 12);
@@ -156,7 +103,7 @@ public final class PromiseTests {
     }
 
     private static void promise3SetSun() {
-        promise = "promise 3";
+        says("promise 3");
         WetMosaic m = new WetMosaic();
         due("setSun(0, 4)", m.setSun(0, 4), 1);
         due("setSun(0, 0)", m.setSun(0, 0), 4);
@@ -170,7 +117,7 @@ public final class PromiseTests {
     }
 
     private static void promise4Press() {
-        promise = "promise 4";
+        says("promise 4");
         WetMosaic m = new WetMosaic();
         m.spread(0, 0, 10, 3);
         due("press across", m.press(7, 0, 3, true, 0, 6), 0);
@@ -232,7 +179,7 @@ public final class PromiseTests {
     }
 
     private static void promise5Flip() {
-        promise = "promise 5";
+        says("promise 5");
         WetMosaic m = freshWall();
         m.press(1, 1, 2, true, 3, 5);
         due("flip(0)", m.flip(0), 5);
@@ -255,7 +202,7 @@ public final class PromiseTests {
     }
 
     private static void promise6Turn() {
-        promise = "promise 6";
+        says("promise 6");
         WetMosaic m = freshWall();
         m.press(3, 3, 3, true, 1, 2);
         due("turn(0)", m.turn(0), 3);
@@ -292,7 +239,7 @@ public final class PromiseTests {
     }
 
     private static void promise7Take() {
-        promise = "promise 7";
+        says("promise 7");
         WetMosaic m = freshWall();
         m.press(0, 0, 2, true, 1, 2);
         m.press(0, 1, 3, true, 3, 4);
@@ -328,7 +275,7 @@ public final class PromiseTests {
     }
 
     private static void promise8Cell() {
-        promise = "promise 8";
+        says("promise 8");
         WetMosaic m = freshWall();
         m.press(9, 6, 2, false, 4, 2);
         due("cell(9, 7, 0)", m.cell(9, 7, 0), 12);
@@ -346,14 +293,8 @@ public final class PromiseTests {
         refused(m, "cell(0, 0, -1)", INDEX, () -> m.cell(0, 0, -1));
     }
 
-    private static void pieceIs(WetMosaic m, int piece, int... facts) {
-        for (int what = 0; what < 8; what++) {
-            due("piece(" + piece + ", " + what + ")", m.piece(piece, what), facts[what]);
-        }
-    }
-
     private static void promise9Piece() {
-        promise = "promise 9";
+        says("promise 9");
         WetMosaic m = freshWall();
         m.press(4, 2, 3, true, 5, 6);
         m.press(1, 5, 2, false, 0, 3);
@@ -373,7 +314,7 @@ public final class PromiseTests {
     }
 
     private static void promise10Count() {
-        promise = "promise 10";
+        says("promise 10");
         WetMosaic m = new WetMosaic();
         m.spread(0, 0, 6, 4);
         m.press(0, 2, 3, true, 1, 2);
@@ -390,12 +331,6 @@ public final class PromiseTests {
         refused(m, "count(8)", INDEX, () -> m.count(8));
         refused(m, "count(-1)", INDEX, () -> m.count(-1));
         countGaps();
-    }
-
-    private static void countsAre(WetMosaic m, int... counts) {
-        for (int what = 0; what < 8; what++) {
-            due("count(" + what + ")", m.count(what), counts[what]);
-        }
     }
 
     /** Cells that touch at corners alone, or over the edge of a row, are gaps of their own. */
@@ -415,7 +350,7 @@ public final class PromiseTests {
     }
 
     private static void promise11Off() {
-        promise = "promise 11";
+        says("promise 11");
         WetMosaic m = freshWall();
         due("kind 0, bare", m.off(0, 0, 0), 80);
         due("kind 3, bare", m.off(3, 0, 0), 0);
@@ -440,7 +375,7 @@ public final class PromiseTests {
     }
 
     private static void promise12Advise() {
-        promise = "promise 12";
+        says("promise 12");
         WetMosaic m = freshWall();
         due("without pieces", m.advise(0, 0, 0), -1);
         m.press(0, 0, 1, true, 1, 2);
@@ -471,7 +406,7 @@ public final class PromiseTests {
     }
 
     private static void promise13Mends() {
-        promise = "promise 13";
+        says("promise 13");
         WetMosaic m = freshWall();
         due("across a bare wall", m.mends(0, 0, true), 32);
         due("down a bare wall", m.mends(9, 7, false), 30);
@@ -495,7 +430,7 @@ public final class PromiseTests {
     }
 
     private static void promise14Gap() {
-        promise = "promise 14";
+        says("promise 14");
         WetMosaic m = new WetMosaic();
         due("a bare wall", m.gap(5, 5), 80);
         m.spread(0, 0, 10, 8);
@@ -513,7 +448,7 @@ public final class PromiseTests {
     }
 
     private static void promise15Pass() {
-        promise = "promise 15";
+        says("promise 15");
         WetMosaic m = freshWall();
         m.press(0, 0, 2, true, 0, 0);
         setSuns(m, 1, 2, 0, 4, 3, 1, 1, 1);
@@ -541,7 +476,7 @@ public final class PromiseTests {
     }
 
     private static void promise16Loose() {
-        promise = "promise 16";
+        says("promise 16");
         WetMosaic m = freshWall();
         m.press(0, 0, 2, true, 0, 0);
         long before = m.digest();
@@ -575,7 +510,7 @@ public final class PromiseTests {
     }
 
     private static void promise17Dry() {
-        promise = "promise 17";
+        says("promise 17");
         WetMosaic m = new WetMosaic();
         due("a bare wall", m.dry(), 0);
         m.spread(0, 0, 3, 1);
@@ -602,7 +537,7 @@ public final class PromiseTests {
     }
 
     private static void promise18Share() {
-        promise = "promise 18";
+        says("promise 18");
         WetMosaic m = freshWall();
         due("none", m.share(), 0.0);
         m.press(0, 0, 3, true, 0, 0);
@@ -639,9 +574,10 @@ public final class PromiseTests {
     }
 
     private static void promise19Digest() {
-        promise = "promise 19";
+        says("promise 19");
+        WetMosaic bare = new WetMosaic();
+        due("a new object", bare.digest(), digestByCalls(bare, 1, 1, 1, 1, 1, 1, 1, 1));
         WetMosaic m = new WetMosaic();
-        due("a new object", m.digest(), digestByCalls(m, 1, 1, 1, 1, 1, 1, 1, 1));
         m.spread(1, 1, 7, 6);
         setSuns(m, 1, 0, 2, 3, 4, 0, 1, 2);
         m.press(1, 1, 3, true, 6, 5);
@@ -675,9 +611,6 @@ public final class PromiseTests {
         promise17Dry();
         promise18Share();
         promise19Digest();
-        System.out.println(wrong == 0 ? "all answers are as due" : wrong + " answers are not as due");
-        if (wrong != 0) {
-            System.exit(1);
-        }
+        finish();
     }
 }
