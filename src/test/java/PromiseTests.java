@@ -1,8 +1,15 @@
+import java.io.IOException;
 import java.lang.reflect.Constructor;
 import java.lang.reflect.Method;
 import java.lang.reflect.Modifier;
+import java.nio.file.Files;
+import java.nio.file.Path;
+import java.util.ArrayList;
+import java.util.List;
 import java.util.Set;
 import java.util.TreeSet;
+import java.util.regex.Matcher;
+import java.util.regex.Pattern;
 
 /** At least one test for each promise of the document: ordinary inputs, edges and wrong inputs. */
 public final class PromiseTests extends MosaicTest {
@@ -49,6 +56,28 @@ public final class PromiseTests extends MosaicTest {
         Constructor<?>[] made = WetMosaic.class.getDeclaredConstructors();
         due("constructors", made.length, 1);
         due("constructor's parameters", made[0].getParameterCount(), 0);
+    }
+
+    /** Ahead of which calls the interface says what, and the document's first words, as the source has them. */
+    private static void heads() throws IOException {
+        says("the interface says");
+        Pattern head = Pattern.compile("/\\*\\* (A mosaic .*) \\*/| {4}// (---- .*)| {4}public \\w+ (\\w+)\\(.*");
+        List<String> seen = new ArrayList<>();
+        for (String line : Files.readAllLines(Path.of("src/main/java/WetMosaic.java"))) {
+            Matcher found = head.matcher(line);
+            for (int group = 1; found.matches() && group <= 3; group++) {
+                if (found.group(group) != null) {
+                    seen.add(found.group(group));
+                }
+            }
+        }
+        due("heads and calls", seen, List.of(
+            "A mosaic of pieces with two faces.",
+            "---- mortar and sun", "spread", "setSun",
+            "---- pieces", "press", "flip", "turn", "take",
+            "---- what is there", "cell", "piece", "count",
+            "---- patterns and mending", "off", "advise", "mends", "gap",
+            "---- hours", "pass", "loose", "dry", "share", "digest"));
     }
 
     private static void promise1NewObject() {
@@ -590,8 +619,9 @@ public final class PromiseTests extends MosaicTest {
         due("again", m.digest(), m.digest());
     }
 
-    public static void main(String[] args) {
+    public static void main(String[] args) throws IOException {
         face();
+        heads();
         promise1NewObject();
         promise2Spread();
         promise3SetSun();
